@@ -407,8 +407,9 @@ public final class BorderHarp {
         return value >= least && value <= most;
     }
 
-    private static boolean inRow(int value, int end) {
-        return value >= 0 && value < end;
+    /** Whether this is one of so many that are numbered from 0. */
+    private static boolean inRow(int value, int many) {
+        return value >= 0 && value < many;
     }
 
     private static boolean has(int bits, int place) {
@@ -618,12 +619,13 @@ public final class BorderHarp {
 
         int fewestGuards(Border border, int k) {
             learnReaches(border);
-            int best = (1 << border.postCount) - 1;
-            if (!covers(best, k)) {
+            int all = (1 << border.postCount) - 1;
+            if (!covers(all, k)) {
                 return NONE;
             }
+            int best = all;
             int fewest = border.postCount;
-            for (int posts = 0; posts < best; posts++) {
+            for (int posts = 0; posts < all; posts++) {
                 int size = Integer.bitCount(posts);
                 if (size < fewest && covers(posts, k)) {
                     fewest = size;
@@ -792,7 +794,7 @@ public final class BorderHarp {
                 return 1 << note;
             }
             int lowest = silken[w] ? note + NOTES - MOST_FROST : note;
-            int spread = FROSTS << lowest % NOTES;
+            int spread = FROSTS << (lowest % NOTES);
             return (spread | spread >> NOTES) & ALL_NOTES;
         }
     }
@@ -811,7 +813,6 @@ public final class BorderHarp {
         private int token;
         private int start;
         private int end;
-        private int value;
 
         void append(long v, int n) {
             for (int i = n - 1; i >= 0 && length < MOST_TEXT; i--) {
@@ -929,7 +930,14 @@ public final class BorderHarp {
         /** The number that comes next, or NONE if none comes or it is not within these. */
         private int nextNumber(int least, int most) {
             scan();
-            return token == NUMBER && within(value, least, most) ? value : NONE;
+            if (token != NUMBER) {
+                return NONE;
+            }
+            int number = 0;
+            for (int i = start; i < end; i++) {
+                number = 10 * number + bytes[i] - '0';
+            }
+            return within(number, least, most) ? number : NONE;
         }
 
         private boolean isWord(String word) {
@@ -950,42 +958,27 @@ public final class BorderHarp {
             while (start < length && bytes[start] == ' ') {
                 start++;
             }
-            end = start;
-            if (start >= length) {
-                token = END;
-            } else if (isLetter(bytes[start])) {
-                scanWord();
-            } else if (isFigure(bytes[start])) {
-                scanNumber();
-            } else {
-                token = bytes[start] == ';' ? STOP : STRANGE;
-                end = start + 1;
+            token = start < length ? tokenOf(bytes[start]) : END;
+            end = Math.min(length, start + 1);
+            if (token == WORD || token == NUMBER) {
+                while (end < length && tokenOf(bytes[end]) == token) {
+                    end++;
+                }
+            }
+            // A number with a third figure can stand nowhere; its fault is at its first one.
+            if (token == NUMBER && end - start > 2) {
+                token = STRANGE;
             }
         }
 
-        private void scanWord() {
-            token = WORD;
-            while (end < length && isLetter(bytes[end])) {
-                end++;
+        private static int tokenOf(byte sign) {
+            if (sign >= 'a' && sign <= 'z') {
+                return WORD;
             }
-        }
-
-        /** A number with a third figure can stand nowhere, so it is no NUMBER. */
-        private void scanNumber() {
-            value = 0;
-            while (end < length && isFigure(bytes[end])) {
-                value = 10 * value + bytes[end] - '0';
-                end++;
+            if (sign >= '0' && sign <= '9') {
+                return NUMBER;
             }
-            token = end - start <= 2 ? NUMBER : STRANGE;
-        }
-
-        private static boolean isLetter(byte sign) {
-            return sign >= 'a' && sign <= 'z';
-        }
-
-        private static boolean isFigure(byte sign) {
-            return sign >= '0' && sign <= '9';
+            return sign == ';' ? STOP : STRANGE;
         }
     }
 

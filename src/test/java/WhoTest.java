@@ -158,7 +158,7 @@ public final class WhoTest {
         x.wire(4, 3, 0);
         Due.due("seven that all meet, of six notes beside silk", x.retune(), -1);
         x.wire(7, 4, 0);
-        // The silk's note is 11: six of 0 .. 5 are left, and just the wires 5 and 6 are not of these.
+        // The silk's note is 11, so just the notes 0 .. 5 are left to the others.
         x.wire(3, 1, 3);
         x.wire(5, 1, 4);
         x.wire(6, 1, 5);
