@@ -100,6 +100,8 @@ public final class SoundTest {
         heardAll(x, "a cart", 0, 1, 3, 3, 1, 0, 0);
         x.pass(59, 4, 3);
         heardAll(x, "a cart on the last wire", 59, 0, 0, 16, 16, 16, 16);
+        x.pass(30, 3, 3);
+        heardAll(x, "a cart ahead of the last wire", 30, 0, 8, 8, 8, 24, 24);
         x.wire(0, 4, 0);
         heardAll(x, "a cart on a cut wire", 0, 0, 2, 2, 0, 0, 0);
         x.wire(1, 1, 1);

@@ -84,6 +84,7 @@ public final class TextTest {
         reads("posts6;wire0 0 0;", 2);
         reads("posts 06;wire 00 01 02;pass 09 4 03;", 3);
         reads("posts 2;wire 0 4 11;wire 0 0 0;frost 1;frost 5;", 5);
+        reads("posts 2;frost 0;pass 0 0 0;wind 0 0;wire 0 0 0;", 5);
         reads("posts 2;guard 0;guard 1;pass 59 0 3;wind 59 0;", 5);
     }
 
@@ -106,6 +107,11 @@ public final class TextTest {
     private static void words() {
         fault("post 6;", 0);
         fault("postss 6;", 0);
+        fault("postsz 6;", 0);
+        fault("aposts 6;", 0);
+        fault("hosts 6;", 0);
+        fault("poets 6;", 0);
+        fault("posts 6;gass 1 1 1;", 8);
         fault(" wire 0 0 0;", 1);
         fault("6;", 0);
         fault(";", 0);

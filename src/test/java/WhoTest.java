@@ -218,6 +218,16 @@ public final class WhoTest {
             x.wind(minute, 0);
         }
         slips(x, "wind in the first minutes", 0, 0);
+        x.posts(3);
+        x.guard(0, true);
+        x.guard(2, true);
+        for (int minute = 0; minute < 6; minute++) {
+            x.wind(minute, 1);
+        }
+        // A man on either wire is heard at all three posts; wind at wire 1 hides him at post 2 alone.
+        slips(x, "wind that hides him from one of two", 1, 1);
+        x.wire(1, 4, 0);
+        slips(x, "wind on a cut wire hides nothing", 2, 0);
     }
 
     private static void fraction(BorderHarp x, String what, long above, long below) {
@@ -320,6 +330,8 @@ public final class WhoTest {
         Due.due("two posts hear all", x.doubled(), -1);
         x.wire(0, 3, 0);
         Due.due("but silk", x.doubled(), 0);
+        x.posts(3);
+        Due.due("a gain of one", x.doubled(), 0);
     }
 
     private static void doubt() {
