@@ -1,4 +1,8 @@
-/** Promises 1 to 12, and 27 to 32: a border, its images, what is refused, what there is. */
+import java.math.BigInteger;
+import java.util.ArrayList;
+import java.util.List;
+
+/** Promises 1 to 11, and 27 to 32: a border, its images, what is refused, what there is. */
 public final class BorderTest {
     private static final int[] WILD = {Integer.MIN_VALUE, -1, Integer.MAX_VALUE};
 
@@ -8,17 +12,20 @@ public final class BorderTest {
     public static void main(String[] args) {
         newObject();
         posts();
+        postsForget();
         wire();
         frost();
         guard();
         windAndCalm();
         passAndUndo();
         typeAndClear();
+        typeOfEach();
         images();
         imagesLeaveTheRest();
         status();
         countAndPart();
         digest();
+        digestOfMost();
         Due.end();
     }
 
@@ -72,6 +79,30 @@ public final class BorderTest {
         Due.due("after posts: status(1)", x.status(1), no);
         Due.due("after posts: from(0)", x.from(0), 1);
         Due.due("the image's guards", x.count(1), 2);
+    }
+
+    /** "n POSTS, all as at first": of more posts than before, too. */
+    private static void postsForget() {
+        for (int n = 2; n <= 9; n++) {
+            BorderHarp x = new BorderHarp();
+            x.posts(9);
+            for (int w = 0; w < 8; w++) {
+                x.wire(w, 4, 11);
+                x.guard(w + 1, true);
+                x.pass(w, w, 3);
+                x.wind(w, w);
+            }
+            x.frost(5);
+            Due.due("posts(" + n + ")", x.posts(n), 9);
+            int[] counts = {n, 0, 0, 0, 0, 0};
+            for (int what = 0; what < 6; what++) {
+                Due.due("posts(" + n + "): count(" + what + ")", x.count(what), counts[what]);
+            }
+            Due.due("posts(9) after posts(" + n + ")", x.posts(9), n);
+            for (int w = 0; w < 8; w++) {
+                Due.due("wire " + w + " after posts(" + n + ")", x.wire(w, 0, 0), 0);
+            }
+        }
     }
 
     /** Six posts with something of everything: 2 guards, 2 winds, 3 passes, frost 3. */
@@ -205,6 +236,27 @@ public final class BorderTest {
         Due.due("count(4)", x.count(4), 0);
     }
 
+    /** "The lowest n (1 .. 8) bytes of v, the highest of them first": by pieces of each n, whatever is above them. */
+    private static void typeOfEach() {
+        String text = "posts 9;wire 7 4 11;guard 8;wind 59 7;pass 58 6 2;frost 5;".concat(" ".repeat(6));
+        for (int n = 1; n <= 8; n++) {
+            BorderHarp x = new BorderHarp();
+            for (int at = 0; at < text.length(); at += n) {
+                String piece = text.substring(at, Math.min(text.length(), at + n));
+                int many = piece.length();
+                long above = many == 8 ? 0 : -1L << 8 * many;
+                Due.due("pieces of " + n + " to " + (at + many), x.type(above | Due.packed(piece), many), at + many);
+            }
+            Due.due("read() by pieces of " + n, x.read(), 6);
+            Due.due("its wire by pieces of " + n, x.wire(7, 0, 0), 59);
+            Due.due("its guard by pieces of " + n, x.guard(8, true), -3);
+        }
+        BorderHarp x = new BorderHarp();
+        Due.due("eight bytes of 255", x.type(-1, 8), 8);
+        Due.due("255 begins no token", x.read(), -10);
+        Due.due("eight bytes of 0", x.type(0, 8), 16);
+    }
+
     private static void images() {
         BorderHarp x = new BorderHarp();
         fill(x);
@@ -304,11 +356,41 @@ public final class BorderTest {
         Due.due("digest() of two posts", x.digest(), hash(2, 0, 0, 0, 4, 0, 0, 0, 0, 2, 3));
     }
 
-    private static long hash(long... values) {
-        long h = 787;
-        for (long v : values) {
-            h = 31 * h + v;
+    /** The longest one: nine posts, all guards, six winds, eight passes, 200 bytes. */
+    private static void digestOfMost() {
+        BorderHarp x = new BorderHarp();
+        x.posts(9);
+        List<Long> due = new ArrayList<>(List.of(9L, 9L, 6L, 8L, 200L, 5L, 511L));
+        for (int w = 0; w < 8; w++) {
+            x.wire(w, w % 5, 11 - w);
+            due.addAll(List.of(w % 5L, 11L - w));
         }
-        return h;
+        for (int i = 0; i < 6; i++) {
+            x.wind(59 - i, 7 - i);
+            due.addAll(List.of(59L - i, 7L - i));
+        }
+        for (int i = 0; i < 8; i++) {
+            x.pass(50 + i, i, i % 4);
+            due.addAll(List.of(50L + i, (long) i, i % 4L));
+        }
+        for (int post = 0; post < 9; post++) {
+            x.guard(post, true);
+        }
+        x.frost(5);
+        x.doubt(1, 99);
+        due.addAll(List.of(100L, 9901L));
+        for (int i = 0; i < 25; i++) {
+            x.type(i, 8);
+        }
+        Due.due("digest() of the most", x.digest(), hash(due.stream().mapToLong(v -> v).toArray()));
+    }
+
+    /** By numbers without an end, of which the lowest 64 bits are left: that is how a long wraps. */
+    private static long hash(long... values) {
+        BigInteger h = BigInteger.valueOf(787);
+        for (long v : values) {
+            h = h.multiply(BigInteger.valueOf(31)).add(BigInteger.valueOf(v));
+        }
+        return h.longValue();
     }
 }
