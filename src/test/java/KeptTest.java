@@ -22,6 +22,7 @@ public final class KeptTest {
         return Made.rich(6);
     }
 
+    /** A call that just asks changes nothing. */
     private static void asking() {
         Whole.asked(KeptTest::rich, 5, "sounds", 0, 3, 0);
         Whole.asked(KeptTest::rich, 10, "sounds", 4, 1, 1);
@@ -91,6 +92,7 @@ public final class KeptTest {
         return x;
     }
 
+    /** "takes the place of all but IMAGES, THE TEXT, THE FRACTION, STATUS"; no call but their own changes these. */
     private static void changesOfBorder() {
         Whole.changedBorder(KeptTest::rich, 6, "posts", 6);
         Whole.changedBorder(KeptTest::rich, 6, "posts", 2);
@@ -107,6 +109,7 @@ public final class KeptTest {
         Whole.changedBorder(KeptTest::rich, 1, "from", 1);
     }
 
+    /** "LOT is THE FRACTION", "its LOT is THE FRACTION", "DOUBT is THE FRACTION": nothing else is another. */
     private static void chances() {
         Whole.changedFraction(KeptTest::rich, 1, 15, 1, "lot", 2, 0, 0);
         Whole.changedFraction(KeptTest::rich, 2, 5, 1, "lot", 2, 2, 0);

@@ -191,6 +191,7 @@ public final class SoundEdgesTest {
         Due.due("no wire 1 is left", x.heard(1, 0), 1);
     }
 
+    /** "of strength 1 on the next WIRE": on that side alone, as loud as that WIRE's KIND is by it. */
     private static void cartsOnward() {
         BorderHarp x = ofPosts(9);
         for (int w = 0; w < 8; w++) {
@@ -211,6 +212,7 @@ public final class SoundEdgesTest {
         Due.due("but no farther", x.heard(2, 1), 0);
     }
 
+    /** "By how many GUARDS some NOTE is HEARD in a MINUTE": none to all nine. */
     private static void alarmOfAll() {
         BorderHarp x = ofPosts(9);
         for (int post = 0; post < 9; post++) {

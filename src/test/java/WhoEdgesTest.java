@@ -14,6 +14,8 @@ public final class WhoEdgesTest {
         retuneOfFew();
         retuneOfMany();
         retuneByAnyFrost();
+        retuneOfTheFirst();
+        askedAgain();
         slipAtTheEnds();
         slipOfLikeOnes();
         slipNearWind();
@@ -54,6 +56,7 @@ public final class WhoEdgesTest {
         Due.due("nothing was refused", x.status(0), 0);
     }
 
+    /** "of which POST a heard just a set of NOTES, POST b just another one": not one more, not one less. */
     private static void whichOfTwoPosts() {
         BorderHarp x = ofKind(2, 0);
         Due.due("which at both", x.which(0, 1, 1, 1, -1), 4);
@@ -109,6 +112,7 @@ public final class WhoEdgesTest {
         Due.due("one of silk is not cut", x.cover(1), -1);
     }
 
+    /** "pairs of WIRES with a like NOTE (not CUT)": none to all 28. */
     private static void clashesOfFew() {
         for (int kind = 0; kind < 5; kind++) {
             Due.due("one wire of kind " + kind, ofKind(2, kind).clashes(), 0);
@@ -155,6 +159,7 @@ public final class WhoEdgesTest {
         Due.due("11 beside a cut one of 11", x.clashes(), 0);
     }
 
+    /** "RETUNE: the fewest WIRES": none, where there is nothing to tune anew. */
     private static void retuneOfFew() {
         for (int kind = 0; kind < 5; kind++) {
             Due.due("one wire of kind " + kind, ofKind(2, kind).retune(), 0);
@@ -199,6 +204,46 @@ public final class WhoEdgesTest {
                 Due.due("silk " + silk + " beside " + tune + " clashes once at most", clashes <= 1 ? 1 : 0, 1);
             }
         }
+    }
+
+    /** The first wire has no note left; or it has some, as silk far off does not meet it. */
+    private static void retuneOfTheFirst() {
+        BorderHarp x = ofKind(9, 1);
+        x.wire(3, 3, 9);
+        x.wire(4, 3, 0);
+        x.wire(6, 4, 0);
+        x.wire(7, 4, 0);
+        x.wire(2, 1, 1);
+        x.wire(5, 1, 2);
+        // Silk of the notes 8 and 11 leaves the tunes 0, 1, 2, which others have; if one of silk goes on, there are more.
+        Due.due("the first wire and one of silk", x.retune(), 0b1001);
+        x = ofKind(9, 4);
+        x.wire(0, 0, 0);
+        x.wire(1, 3, 0);
+        x.wire(2, 0, 0);
+        x.wire(7, 3, 6);
+        // Silk of note 11 leaves the tunes 0 .. 5; silk of note 5 would leave none of them, were it heard near by.
+        Due.due("the first wire alone", x.retune(), 1);
+    }
+
+    /** An answer is of the border as it is, whatever was asked of another one before. */
+    private static void askedAgain() {
+        BorderHarp x = ofKind(9, 0);
+        Due.due("nine posts: retune()", x.retune(), 0b1110111);
+        Due.due("nine posts: cover(1)", x.cover(1), 0b10101010);
+        x.posts(2);
+        Due.due("then two: retune()", x.retune(), 0);
+        Due.due("then two: cover(1)", x.cover(1), 1);
+        slips(x, "then two", 0, 0);
+        x.wire(0, 4, 0);
+        slips(x, "then cut", -1, -1);
+        Due.due("then cut: cover(1)", x.cover(1), 0);
+        x.posts(9);
+        x.retune();
+        for (int w = 0; w < 8; w++) {
+            x.wire(w, 2, w % 2);
+        }
+        Due.due("then slack ones, that meet beside one another alone", x.retune(), 0);
     }
 
     private static void slips(BorderHarp x, String what, int guards, int place) {
@@ -319,11 +364,13 @@ public final class WhoEdgesTest {
         Due.due("a cut one does not count, man", x.surest(1, 1), 7);
         fraction(x, "a man at 7", 2, 3);
         Due.due("cut, and a chance of 0", x.surest(9, 1), 1);
-        // A cart on wire 6 sounds wire 7, too, but its own wire alone counts.
-        x.wire(7, 1, 0);
-        x.wire(6, 2, 0);
-        Due.due("a cart's own wire", x.surest(1, 3), 6);
-        fraction(x, "a cart on a slack one", 5, 9);
+        // A slack wire 0 is heard at 3 posts; that a doubled wire 1 sounds, too, and at 5 posts, does not count.
+        x.wire(0, 2, 0);
+        x.wire(1, 1, 0);
+        Due.due("a cart's own wire alone", x.surest(1, 3), 0);
+        fraction(x, "a cart on a slack one", 2, 3);
+        x.lot(1, 0, 3);
+        fraction(x, "its lot", 2, 3);
         x = ofKind(9, 4);
         x.doubt(50, 50);
         Due.due("all cut", x.surest(9, 3), -1);
@@ -333,6 +380,7 @@ public final class WhoEdgesTest {
         fraction(x, "now it is told", 0, 1);
     }
 
+    /** "WIRES (bits) of which a NOTE may come that is HEARD at a POST, plucked with strength s (1 .. 3)". */
     private static void whenceAtTheEnds() {
         BorderHarp x = ofKind(9, 1);
         Due.due("post 0, strength 3", x.whence(0, 0, 3), 31);
