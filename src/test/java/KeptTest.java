@@ -14,6 +14,8 @@ public final class KeptTest {
         noChance();
         imagesApart();
         imageToldAnew();
+        imageOfTheMost();
+        readOfTheMost();
         objectsApart();
         Due.end();
     }
@@ -173,6 +175,71 @@ public final class KeptTest {
         Due.bad(x, "a wire of the other image", () -> x.wire(1, 0, 0));
         x.posts(9);
         Due.due("a wire of the other image is as at first", x.wire(7, 0, 0), 0);
+    }
+
+    /** Nine posts, six winds, eight passes; by another number each one of them is another. */
+    private static BorderHarp most(int number) {
+        BorderHarp x = new BorderHarp();
+        x.posts(9);
+        for (int w = 0; w < 8; w++) {
+            x.wire(w, (w + number) % 5, (w + number) % 12);
+            x.pass(10 + w + number, (w + number) % 8, (w + number) % 4);
+        }
+        for (int i = 0; i < 6; i++) {
+            x.wind(50 - i - number, (i + number) % 8);
+        }
+        x.frost(number);
+        x.guard(number, true);
+        return x;
+    }
+
+    /** "IMAGES 0, 1 keep all": to the last wind and the last pass. */
+    private static void imageOfTheMost() {
+        for (int i = 0; i < 2; i++) {
+            BorderHarp x = most(1);
+            x.image(i);
+            tellAnew(x, 2);
+            Due.due("another border after image(" + i + ")", x.digest(), most(2).digest());
+            x.from(i);
+            Due.due("the most by from(" + i + ")", x.digest(), most(1).digest());
+        }
+    }
+
+    private static void tellAnew(BorderHarp x, int number) {
+        Due.type(x, textOfMost(number));
+        Due.due("read() of the most", x.read(), 1 + 6 + 8 + 2);
+        for (int w = 0; w < 8; w++) {
+            x.wire(w, (w + number) % 5, (w + number) % 12);
+        }
+        x.clear();
+    }
+
+    /** All but the wires, for which 200 bytes are too few. */
+    private static String textOfMost(int number) {
+        String text = "posts 9;frost " + number + ";guard " + number + ";";
+        for (int w = 0; w < 8; w++) {
+            text += "pass " + (10 + w + number) + " " + (w + number) % 8 + " " + (w + number) % 4 + ";";
+        }
+        for (int i = 0; i < 6; i++) {
+            text += "wind " + (50 - i - number) + " " + (i + number) % 8 + ";";
+        }
+        return text;
+    }
+
+    /** "A BORDER that is read takes the place of all": to the last wind, the last pass and the last wire. */
+    private static void readOfTheMost() {
+        BorderHarp x = most(3);
+        tellAnew(x, 1);
+        Due.due("passes and winds by a text", x.digest(), most(1).digest());
+        String wires = "posts 9;";
+        for (int w = 0; w < 8; w++) {
+            wires += "wire " + w + " " + (w + 2) % 5 + " " + (11 - w) + ";";
+        }
+        Due.type(x, wires);
+        Due.due("read() of all wires", x.read(), 9);
+        for (int w = 0; w < 8; w++) {
+            Due.due("wire " + w + " by a text", x.wire(w, 0, 0), 12 * ((w + 2) % 5) + 11 - w);
+        }
     }
 
     /** No two objects share anything. */

@@ -15,6 +15,7 @@ public final class WhoEdgesTest {
         retuneOfMany();
         retuneByAnyFrost();
         retuneOfTheFirst();
+        retuneOfSilkApart();
         askedAgain();
         slipAtTheEnds();
         slipOfLikeOnes();
@@ -224,6 +225,21 @@ public final class WhoEdgesTest {
         x.wire(7, 3, 6);
         // Silk of note 11 leaves the tunes 0 .. 5; silk of note 5 would leave none of them, were it heard near by.
         Due.due("the first wire alone", x.retune(), 1);
+    }
+
+    /** The first wire is doubled between silk that does not meet: it is bound by each, they are not by one another. */
+    private static void retuneOfSilkApart() {
+        // Posts, the silk's tunes (-1: cut), the tune of wire 0, what is due.
+        // By silk of the notes 7 and 1 no tune is left to wire 0; by silk of the notes 2 and 9 it has tune 3.
+        int[][] due = {{5, 8, -1, 2, 9, 0b1000}, {5, 2, -1, 8, 9, 0b0010}, {5, 2, -1, 8, 7, 0b1000}, {5, 3, -1, 10, 0, 1}};
+        for (int[] row : due) {
+            BorderHarp x = ofKind(row[0], 4);
+            x.wire(0, 1, row[4]);
+            for (int w = 1; w < 4; w++) {
+                x.wire(w, row[w] < 0 ? 4 : 3, Math.max(0, row[w]));
+            }
+            Due.due("silk " + row[1] + " and " + row[3] + " beside doubled " + row[4], x.retune(), row[5]);
+        }
     }
 
     /** An answer is of the border as it is, whatever was asked of another one before. */
